@@ -1,0 +1,116 @@
+import java.lang.reflect.Constructor;
+import java.lang.reflect.Field;
+import java.lang.reflect.Method;
+import java.lang.reflect.Modifier;
+import java.nio.file.Files;
+import java.nio.file.Path;
+import java.util.ArrayList;
+import java.util.Arrays;
+import java.util.List;
+import java.util.NoSuchElementException;
+import java.util.Set;
+import java.util.TreeSet;
+import java.util.regex.Matcher;
+import java.util.regex.Pattern;
+
+/** The face to the letter, and those rules of ../shared/LANGUAGE.md that can be seen from the text; the first argument is the source. */
+public final class RulesTest {
+    static final String[] FACE = {
+        "int feed(long,long,long)", "int town()", "int year()", "int person(int,int)", "int life(int,int)",
+        "boolean may(int,int)", "boolean hide(int,int)", "int lot(int)", "boolean swap(int,int)", "int day()", "int home()",
+        "boolean undo()", "int judged(int)", "int lots()", "int odds(int,int)", "int least(int)", "int prepare(int,int)",
+        "int deeds(int,int,int,int)", "int pairs(int)", "boolean tale(int,int,int)", "int how()", "int who(int)", "int ask()",
+        "int law(int)", "int rests(int,int,int,int)", "int years(int,int,int)", "boolean mark(int,boolean)", "int count(int)"};
+    static int wrong = 0;
+
+    public static void main(String[] args) throws Exception {
+        face();
+        String code = Files.readString(Path.of(args[0]))
+                .replaceAll("(?s)/\\*.*?\\*/", "").replaceAll("//[^\n]*", "");
+        banned(code);
+        lengths(code);
+        System.out.println("RulesTest: " + wrong + " failed");
+        System.exit(wrong == 0 ? 0 : 1);
+    }
+
+    static void must(boolean good, String what) {
+        if (!good) {
+            wrong++;
+            System.out.println(what);
+        }
+    }
+
+    static void face() {
+        Class<?> c = BorrowedLives.class;
+        must(c.getModifiers() == (Modifier.PUBLIC | Modifier.FINAL), "public and final");
+        must(c.getPackageName().isEmpty(), "no package");
+        Set<String> due = new TreeSet<>(Arrays.asList(FACE));
+        Set<String> is = new TreeSet<>();
+        Set<String> hiddenNames = new TreeSet<>();
+        for (Method m : c.getDeclaredMethods()) {
+            List<String> types = new ArrayList<>();
+            for (Class<?> t : m.getParameterTypes()) {
+                types.add(t.getSimpleName());
+            }
+            if (Modifier.isPrivate(m.getModifiers())) {
+                hiddenNames.add(m.getName());
+                continue;
+            }
+            must(m.getModifiers() == Modifier.PUBLIC, "plainly public: " + m);
+            is.add(m.getReturnType().getSimpleName() + " " + m.getName() + "(" + String.join(",", types) + ")");
+            boolean throwing = m.getName().equals("deeds") || m.getName().equals("rests");
+            must(Arrays.equals(m.getExceptionTypes(), throwing ? new Class<?>[] {NoSuchElementException.class} : new Class<?>[0]), "throws of " + m);
+        }
+        must(is.equals(due), "the face is " + is);
+        for (String f : due) {
+            must(!hiddenNames.contains(f.replaceAll(".* |\\(.*", "")), "a private method bears the name of " + f);
+        }
+        for (Field f : c.getDeclaredFields()) {
+            must(Modifier.isPrivate(f.getModifiers()) || f.getName().equals("NONE"), "private: " + f);
+        }
+        Constructor<?>[] made = c.getDeclaredConstructors();
+        must(made.length == 1 && made[0].getParameterCount() == 0 && Modifier.isPublic(made[0].getModifiers()), "one constructor");
+        must(c.getDeclaredClasses().length <= 12, "twelve classes");
+        for (Class<?> inside : c.getDeclaredClasses()) {
+            must(Modifier.isStatic(inside.getModifiers()) && !Modifier.isPublic(inside.getModifiers()), "static: " + inside);
+            fields(inside);
+        }
+        fields(c);
+    }
+
+    static void fields(Class<?> c) {
+        int own = 0;
+        for (Field f : c.getDeclaredFields()) {
+            boolean fixed = Modifier.isStatic(f.getModifiers());
+            own += fixed ? 0 : 1;
+            must(!fixed || Modifier.isFinal(f.getModifiers()), "final: " + f);
+        }
+        must(own <= 20, "twenty fields: " + c + " has " + own);
+        for (Method m : c.getDeclaredMethods()) {
+            must(m.getParameterCount() <= 7, "seven parameters: " + m);
+        }
+    }
+
+    static void banned(String code) {
+        String[] never = {"->", "::", "\\bfinally\\b", "\\bsynchronized\\b", "\\bassert\\b", "\\bcatch\\b", "Exact\\(", "\\bdouble\\b",
+            "\\bfloat\\b", "java\\.util\\.(?!Arrays;|NoSuchElementException;)", "\\bSystem\\.(?!arraycopy)", "\" *\\+|\\+ *\"",
+            "\\bstatic *\\{", "\\bwhile *\\(true", "for *\\(;;", "\\b(Random|Thread|Object|equals|hashCode|toString)\\b"};
+        for (String pattern : never) {
+            Matcher m = Pattern.compile(pattern).matcher(code);
+            must(!m.find(), "not in this Java: " + pattern);
+        }
+    }
+
+    static void lengths(String code) {
+        int start = -1;
+        String[] lines = code.split("\n");
+        for (int i = 0; i < lines.length; i++) {
+            if (lines[i].matches("( {4}| {8})[a-zA-Z].*\\) *(throws \\w+ *)?\\{")) {
+                start = i;
+            } else if (start >= 0 && lines[i].matches("( {4}| {8})}")) {
+                must(i - start <= 60, "sixty lines: " + lines[start]);
+                start = -1;
+            }
+        }
+    }
+}
