@@ -29,7 +29,8 @@ public final class BorrowedLives {
     private final Lots drawable = new Lots();
     private final Lives now = new Lives(told);
     private final Lives trial = new Lives(told);
-    private final Lives[] undos = new Lives[MOST_UNDOS];
+    /** A ring with one place more than can be undone: that one is written before it is known whether it counts. */
+    private final Lives[] undos = new Lives[MOST_UNDOS + 1];
     private int nextUndo = 0;
     private int undoable = 0;
     private final Tales tales = new Tales();
@@ -154,7 +155,7 @@ public final class BorrowedLives {
         if (undoable <= 0) {
             return false;
         }
-        nextUndo = (nextUndo + MOST_UNDOS - 1) % MOST_UNDOS;
+        nextUndo = nextUndo > 0 ? nextUndo - 1 : undos.length - 1;
         undoable--;
         now.copyFrom(undos[nextUndo]);
         forecast.forget();
@@ -345,7 +346,7 @@ public final class BorrowedLives {
 
     private boolean byHand(boolean done) {
         if (done) {
-            nextUndo = (nextUndo + 1) % MOST_UNDOS;
+            nextUndo = nextUndo + 1 < undos.length ? nextUndo + 1 : 0;
             undoable = Math.min(undoable + 1, MOST_UNDOS);
             forecast.forget();
         }

@@ -19,9 +19,13 @@ public final class ModelTest {
     final Model m = new Model();
     final List<String> log = new ArrayList<>();
     int people;
+    /** In such a run little is undone before there is much to undo. */
+    final boolean patient;
 
     ModelTest(long seed) {
-        random = new Random(seed);
+        // Random draws alike first by seeds that lie close: so they are spread.
+        random = new Random(seed * 0x9E3779B97F4A7C15L);
+        patient = below(4) == 0;
     }
 
     public static void main(String[] args) {
@@ -66,7 +70,7 @@ public final class ModelTest {
         log.add("seed " + seed);
         int before = wrong;
         tellTown();
-        int n = 20 + below(100);
+        int n = 20 + below(patient ? 300 : 100);
         for (int i = 0; i < n && wrong == before; i++) {
             drawCall();
             if (below(6) == 0) {
@@ -196,7 +200,14 @@ public final class ModelTest {
             case 4 -> same("swap " + a + " " + b, () -> yes(x.swap(a, b)), () -> yes(m.swap(a, b)));
             case 5, 6, 7, 8, 9 -> same("day", x::day, m::day);
             case 10 -> same("home", x::home, m::home);
-            case 11, 12 -> same("undo", () -> yes(x.undo()), () -> yes(m.undo()));
+            case 11, 12 -> {
+                for (int i = below(20) == 0 ? 18 : patient ? 0 : 1; i > 0; i--) {
+                    same("undo", () -> yes(x.undo()), () -> yes(m.undo()));
+                    same("day since", () -> x.count(4), () -> m.count(4));
+                    same("purse", () -> x.life(0, 0), () -> m.life(0, 0));
+                    same("hidden", () -> x.life(0, 3), () -> m.life(0, 3));
+                }
+            }
             case 13 -> {
                 if (below(3) == 0) {
                     feed(perhapsBroken(drawYear()));
@@ -238,7 +249,7 @@ public final class ModelTest {
             }
             case 22, 23 -> {
                 c = below(6) - 1;
-                boolean back = below(2) == 0;
+                boolean back = below(patient ? 20 : 2) == 0;
                 same("mark " + c + " " + back, () -> yes(x.mark(c, back)), () -> yes(m.mark(c, back)));
             }
             case 24 -> {

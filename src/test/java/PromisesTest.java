@@ -180,12 +180,29 @@ public final class PromisesTest {
         town("person\nmoney\nthief skill9purse999debt0999home0;person trade plain skill 0 purse 0 debt 0 home 9 ; sign 0;");
         town("spends((((1)+money)))*not not not 0 or 9999<able and trade=neat-owed;");
         due("skill without a blank", town("person a miser skill9purse7debt5home3;").person(0, 1), 9);
+        town(alike("a", 1) + alike("aa", 2) + alike("b", 3) + alike("bb", 4) + alike("ab", 5) + alike("ba", 6) + "bar ab ba;bar aa bb;bar a b;");
+        town(alike("zzzzzzzz", 1) + alike("zzzzzzzy", 2) + alike("yzzzzzzz", 3) + alike("z", 4) + alike("money", 5) + alike("trade", 6));
+        for (int i = 0; i < 400; i++) {
+            feed(x, TWO + "spends money + owed - neat;");
+            x.town();
+        }
+        x.lot(0);
+        x.day();
+        due("the law of the 400th", x.life(0, 0), 1 + 44);
+        String longest = "person a mayor skill 0 purse 9 debt 0 home 0;person b plain skill 0 purse 0 debt 5 home 0;spends 1";
+        String filled = longest + "-1+1".repeat((999 - longest.length()) / 4);
+        BorrowedLives f = town(filled + ";");
+        f.lot(0);
+        f.day();
+        due("a law as long as can be: 1 is spent", f.life(0, 0), 8);
+        due("and pays", f.life(1, 1), 4);
         BorrowedLives y = town(TWO);
         y.hide(0, 3);
         y.lot(1);
         y.day();
         y.home();
         y.tale(0, 1, 1);
+        y.mark(0, false);
         y.mark(2, false);
         year(y, "day;");
         feed(y, TWO);
@@ -193,6 +210,7 @@ public final class PromisesTest {
         for (int what : new int[] {3, 4, 5, 6, 9, 10, 11}) {
             due("all is new: " + what, y.count(what), 0);
         }
+        due("no mark", y.mark(0, true), false);
         due("no mark", y.mark(2, true), false);
         due("purses as told", y.count(7), 50);
     }
@@ -207,6 +225,9 @@ public final class PromisesTest {
         townFault(KIND_CANT, "person ", "7");
         townFault(KIND_CANT, "person ", "abcdefghi plain");
         townFault(KIND_CANT, "person abcdefgh ", "king");
+        townFault(KIND_CANT, "person abcdefgh ", "not");
+        townFault(KIND_CANT, "person abcdefgh ", "day");
+        townFault(KIND_CANT, "person abcdefgh ", "5");
         townFault(KIND_CANT, "person a", "");
         townFault(KIND_CANT, "person a  ", "");
         townFault(KIND_CANT, "person a plain ", "purse 1");
@@ -476,6 +497,13 @@ public final class PromisesTest {
         l.day();
         due("from the left: (1 or 1) and 0", l.life(0, 0), 100);
         due("from the left: (0 and 0) or 1", l.life(0, 2), 5);
+        BorrowedLives a = town("person p thief skill 7 purse 9 debt 0 home 0;person q mayor skill 9 purse 9 debt 4 home 0;spends 6;mends (money = 3) * 2 + (owed = 0);");
+        a.hide(0, 1);
+        a.hide(1, 9);
+        a.lot(0);
+        a.day();
+        // q leaves 3 in LIFE 0, but sees 2; no debt: 1. p takes 6 of LIFE 1's 15 for himself and sees 9 of it, 4 owed: 0.
+        lookTwo(a, new int[] {9, 0, 1}, new int[] {9, 4, 0});
         BorrowedLives m = town(both + "mends able + (trade = 0) * owed - 31;");
         m.lot(0);
         m.day();
@@ -539,11 +567,21 @@ public final class PromisesTest {
             x.hide(0, i);
         }
         due("the last 16", x.count(11), 16);
+        due("can't be, and leaves them", x.hide(0, 1000), false);
+        due("can't be, and leaves them", x.day(), NONE);
         for (int i = 0; i < 16; i++) {
             due("undo", x.undo(), true);
         }
         due("no more", x.undo(), false);
         due("the fifth was undone last", x.life(0, 3), 4);
+        BorrowedLives z = town(THREE);
+        z.hide(0, 100);
+        int hiddenHarm = z.least(NONE);
+        int mean = z.prepare(1, 1);
+        z.undo();
+        due("as ahead of it", z.least(NONE), 46);
+        due("otherwise", hiddenHarm == 46, false);
+        due("asked anew", z.prepare(1, 1) == mean, false);
         BorrowedLives y = town(FOUR);
         y.lot(0);
         y.swap(0, 3);
@@ -687,6 +725,9 @@ public final class PromisesTest {
         due("own life: 2 saved, 1 paid, 4 mended", x.deeds(0, 0, 7, NONE), 100 + 6 - 10 + 90);
         due("saved first", x.deeds(0, 0, 7, 0), 0);
         due("2 at a time above 4", x.deeds(1, 1, 1, NONE), 40 + 40);
+        due("2 at a time by 5", x.deeds(2, 1, 1, NONE), 40 + 40);
+        due("1 at a time by 4", town("person a plain skill 4 purse 0 debt 0 home 2;").deeds(0, 0, 1, NONE), 30);
+        due("9 at most", town("person a plain skill 5 purse 0 debt 0 home 8;").deeds(0, 0, 1, NONE), 90);
         refused("what 1 of 1 day", () -> x.deeds(0, 1, 1, 1));
         refused("what -2", () -> x.deeds(0, 1, 1, -2));
         refused("0 days", () -> x.deeds(0, 1, 0, NONE));
@@ -729,6 +770,15 @@ public final class PromisesTest {
         due("the most", z.pairs(NONE), 2);
         due("a with b", z.pairs(0), 1);
         due("c with d", z.pairs(2), 3);
+        BorrowedLives c = town(four + "wish (able=0)*(money=3)+(able=2)*(money=1)+(able=1)*(money=4)+(able=3)*(money=2);");
+        due("crossed", c.pairs(NONE), 2);
+        due("a with c", c.pairs(0), 2);
+        due("b with d", c.pairs(1), 3);
+        due("c with a", c.pairs(2), 0);
+        due("d with b", c.pairs(3), 1);
+        feed(c, four + "wish 0;");
+        c.town();
+        due("no more", c.pairs(NONE), 0);
         BorrowedLives s = town(four + "wish 5;");
         due("as well is not rather", s.pairs(NONE), 0);
         due("nobody", s.pairs(3), NONE);
@@ -737,7 +787,7 @@ public final class PromisesTest {
         k.hide(0, 9);
         due("of a wish a thief finds nothing", k.pairs(NONE), 1);
         BorrowedLives u = town("person a plain skill 0 purse 1 debt 0 home 1;person b plain skill 0 purse 0 debt 0 home 3;");
-        due("untold: b's is better by 9", u.pairs(NONE), 0);
+        due("untold it is the same of all: never both would", u.pairs(NONE), 0);
     }
 
     // Promises 21 to 24
@@ -782,6 +832,11 @@ public final class PromisesTest {
         p.tale(0, 1, 49);
         due("b is in 0", p.who(0), 1);
         due("a is in 2", p.who(2), 0);
+        // LIFE 0 holds nothing on all days; in LIFE 1 c pays the debt by the coin, and a leaves it.
+        BorrowedLives q = town("person a plain skill 0 purse 0 debt 0 home 0;person b plain skill 0 purse 1 debt 1 home 0;"
+                + "person c mayor skill 1 purse 0 debt 0 home 0;spends able;mends 0;");
+        due("LIFE 1, DAY 1", q.ask(), 9);
+        due("asked again", q.ask(), 9);
         BorrowedLives t = town(THREE);
         t.lot(0);
         t.day();
@@ -843,6 +898,7 @@ public final class PromisesTest {
         due("seed 10000", x.years(10000, 1, 0), NONE);
         due("no years", x.years(1, 0, 0), NONE);
         due("21 years", x.years(1, 21, 0), NONE);
+        due("seed 9999", x.years(9999, 1, 2), 50);
         // b alone can lose: 8 a day by nobody's hiding, 7 days; by 20 hidden 10 in all. 0 draws 0, then 20 of 30 are hidden.
         String one = "person a plain skill 0 purse 30 debt 0 home 0;person b plain skill 8 purse 0 debt 0 home 0;spends able;mends 0;";
         BorrowedLives y = town(one);
@@ -851,6 +907,10 @@ public final class PromisesTest {
         due("purses", y.years(0, 1, 2), 30);
         due("as ahead", y.life(0, 0), 30);
         due("as ahead", y.count(5), 0);
+        BorrowedLives e = town("person a plain skill 0 purse 20 debt 0 home 0;person b plain skill 8 purse 0 debt 0 home 0;spends able;mends 0;");
+        due("20 of 20 hidden", e.years(0, 1, 0), 0);
+        BorrowedLives f = town("person a plain skill 0 purse 19 debt 0 home 0;person b plain skill 8 purse 0 debt 0 home 0;spends able;mends 0;");
+        due("20 of 19 are not", f.years(0, 1, 0), 19);
         // Seed 3: 1,163,074,432 / 65536 is 17747, of 3 that leaves 2: nothing is hidden.
         due("seed 3", y.years(3, 1, 0), 30);
         y.hide(0, 25);
@@ -898,6 +958,14 @@ public final class PromisesTest {
         due("tales", x.count(10), 2);
         due("still there", x.mark(3, true), true);
         due("not laid", x.mark(1, true), false);
+        BorrowedLives y = town(THREE);
+        y.mark(1, false);
+        y.hide(0, 100);
+        int harm = y.least(NONE);
+        y.prepare(1, 0);
+        y.mark(1, true);
+        due("foreseen anew", y.least(NONE), 46);
+        due("it was otherwise", harm == 46, false);
     }
 
     // Promise 29
