@@ -1,28 +1,5 @@
-import java.util.NoSuchElementException;
-
 /** Each promise of the document by examples worked out by hand: ordinary inputs, edges, wrong inputs. */
-public final class PromisesTest {
-    static final int NONE = -1;
-    static final int KIND_CANT = 1;
-    static final int KIND_NOBODY = 2;
-    static final int KIND_TWICE = 3;
-    static final int KIND_NUMBER = 4;
-    static final int KIND_MANY = 5;
-
-    /** Two who can only be one another: the one LOT is that y leads LIFE 0 and x LIFE 1. */
-    static final String TWO = "person x mayor skill 5 purse 30 debt 4 home 5;person y plain skill 2 purse 20 debt 3 home 5;";
-    static final String THREE = "person ann plain skill 3 purse 100 debt 10 home 5 ; person bob miser skill 6 purse 40 debt 0 home 2 ;"
-            + " person cid thief skill 5 purse 10 debt 30 home 9 ;";
-    static final String FOUR = alike("a", 50) + alike("b", 50) + alike("c", 50) + alike("d", 50);
-    static final String SIX = FOUR + alike("e", 50) + alike("f", 50);
-
-    static int passed = 0;
-    static int wrong = 0;
-
-    interface Call {
-        int answer();
-    }
-
+public final class PromisesTest extends Check {
     public static void main(String[] args) {
         newObject();
         feeding();
@@ -52,77 +29,7 @@ public final class PromisesTest {
         manyYears();
         marks();
         counts();
-        System.out.println("PromisesTest: " + passed + " passed, " + wrong + " failed");
-        System.exit(wrong == 0 ? 0 : 1);
-    }
-
-    static void due(String what, long got, long want) {
-        if (got == want) {
-            passed++;
-        } else {
-            wrong++;
-            System.out.println(what + ": answered " + got + ", due is " + want);
-        }
-    }
-
-    static void due(String what, boolean got, boolean want) {
-        due(what, got ? 1 : 0, want ? 1 : 0);
-    }
-
-    static void refused(String what, Call call) {
-        long thrown = 0;
-        try {
-            call.answer();
-        } catch (NoSuchElementException e) {
-            thrown = 1;
-        }
-        due(what + " throws", thrown, 1);
-    }
-
-    static String alike(String name, int purse) {
-        return "person " + name + " plain skill 3 purse " + purse + " debt 0 home 5;";
-    }
-
-    static int feed(BorrowedLives x, String text) {
-        int there = x.count(12);
-        for (int i = 0; i < text.length(); i += 24) {
-            long[] w = new long[3];
-            for (int k = 0; k < 24 && i + k < text.length(); k++) {
-                w[k / 8] |= (long) text.charAt(i + k) << (56 - 8 * (k % 8));
-            }
-            there = x.feed(w[0], w[1], w[2]);
-        }
-        return there;
-    }
-
-    static BorrowedLives town(String text) {
-        BorrowedLives x = new BorrowedLives();
-        feed(x, text);
-        due("town " + text, x.town(), 0);
-        return x;
-    }
-
-    static void year(BorrowedLives x, String text) {
-        feed(x, text);
-        due("year " + text, x.year(), 0);
-    }
-
-    /** The FAULT is due behind the text ahead of it, at the text that is told as wrong. */
-    static void townFault(int kind, String ahead, String wrongText) {
-        BorrowedLives x = town(TWO);
-        feed(x, ahead + wrongText);
-        due("fault of " + ahead + "[" + wrongText + "]", x.town(), kind + 16 * ahead.length());
-        due("people stay", x.count(0), 2);
-        due("tape is taken", x.count(12), 0);
-    }
-
-    static void yearFault(int kind, String ahead, String wrongText) {
-        BorrowedLives x = town(TWO);
-        year(x, "lot 1;");
-        feed(x, ahead + wrongText);
-        due("fault of " + ahead + "[" + wrongText + "]", x.year(), kind + 16 * ahead.length());
-        due("year stays", x.count(9), 1);
-        due("tape is taken", x.count(12), 0);
+        end("PromisesTest");
     }
 
     // Promise 1
