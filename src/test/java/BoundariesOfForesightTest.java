@@ -694,6 +694,9 @@ public final class BoundariesOfForesightTest extends Check {
         String text = person("a", "plain", 0, 1, 7, 5) + poor("b", 1);
         due("3 of 9", town(text + poor("c", 0) + poor("d", 0) + ONLY_OF_LIFE_0).law(1), 333);
         due("6 of 9, cut", town(text + poor("c", 1) + poor("d", 0) + ONLY_OF_LIFE_0).law(1), 666);
+        BorrowedLives fall = town(alike("a", 0) + alike("b", 0) + "spends 0;mends 0-1;");
+        due("one LOT: two homes fall from 5", fall.law(50), 50000);
+        due("its own", fall.prepare(0, 1), 25000);
         BorrowedLives both = town(person("a", "plain", 1, 0, 0, 5) + person("b", "plain", 1, 0, 0, 3) + "spends 0;mends 0-able;");
         due("of all: 25 and 15", both.law(0), 40000);
     }

@@ -648,6 +648,40 @@ public final class BoundariesOfReadingTest extends Check {
         due("1 went and 1 came", x.life(0, 0), 60);
     }
 
+    // Promise 3: a TOWN of fewer PEOPLE than the one ahead: as one told to a new object, at home and away.
+    static void promise3AsOnANewObject() {
+        String big = "";
+        for (int i = 0; i < 6; i++) {
+            big += person(String.valueOf((char) ('u' + i)), i == 5 ? "thief" : "mayor", 9 - i, 900 + i, 500, 9);
+        }
+        String[] smaller = {"", alike("a", 50), TWO, THREE, FOUR, FOUR + person("e", "miser", 7, 100, 9, 9)};
+        for (String text : smaller) {
+            BorrowedLives used = town(big + "spends 99;mends 0-1;");
+            used.lot(200);
+            used.day();
+            foresee(used);
+            feed(used, text);
+            due("told", used.town(), 0);
+            BorrowedLives fresh = town(text);
+            due("foreseen", foresee(used), foresee(fresh));
+            due("a lot", used.lot(1), fresh.lot(1));
+            due("a day", used.day(), fresh.day());
+            due("seen", look(used), look(fresh));
+            due("foreseen", foresee(used), foresee(fresh));
+        }
+    }
+
+    // Promise 3: TOWNS told again and again: the laws of the last one still find room.
+    static void promise3AgainAndAgain() {
+        BorrowedLives x = new BorrowedLives();
+        String law = "good 0" + "+1-1".repeat(100) + "+";
+        for (int told = 0; told < 20; told++) {
+            feed(x, person("a", "plain", 0, 0, 0, 9) + law + told + ";");
+            due("told", x.town(), 0);
+            due("the law of now", x.deeds(0, 0, 1, NONE), told);
+        }
+    }
+
     // YEAR: "hide NAME N ... 0 to 999 coins"; FAULTS: "4 a NUMBER that is not as told".
     static void promise4HidesOf0To999Coins() {
         due("0", readYear("hide x 0;"), 0);
