@@ -1,3 +1,5 @@
+import java.io.PrintWriter;
+import java.io.StringWriter;
 import java.lang.reflect.Constructor;
 import java.lang.reflect.Field;
 import java.lang.reflect.Method;
@@ -6,12 +8,15 @@ import java.nio.file.Files;
 import java.nio.file.Path;
 import java.util.ArrayList;
 import java.util.Arrays;
+import java.util.LinkedHashMap;
 import java.util.List;
+import java.util.Map;
 import java.util.NoSuchElementException;
 import java.util.Set;
 import java.util.TreeSet;
 import java.util.regex.Matcher;
 import java.util.regex.Pattern;
+import java.util.spi.ToolProvider;
 
 /** The face to the letter, and those rules of ../shared/LANGUAGE.md that can be seen from the text. It runs where .ci/run does. */
 public final class RulesTest {
@@ -29,6 +34,7 @@ public final class RulesTest {
                 .replaceAll("(?s)/\\*.*?\\*/", "").replaceAll("//[^\n]*", "");
         banned(code);
         lengths(code);
+        depths();
         System.out.println("RulesTest: " + wrong + " failed");
         System.exit(wrong == 0 ? 0 : 1);
     }
@@ -112,5 +118,64 @@ public final class RulesTest {
                 start = -1;
             }
         }
+    }
+
+    /** Of chains of calls, which are read from the compiled class, none may be deeper than eight, recursions taken once. */
+    static void depths() {
+        Map<String, Set<String>> calls = callsOf(disassembled());
+        must(calls.size() > FACE.length, "methods are found");
+        for (String f : FACE) {
+            String method = "BorrowedLives." + f.replaceAll(".* |\\(.*", "");
+            List<String> chain = deepest(method, calls, new ArrayList<>());
+            must(calls.containsKey(method) && chain.size() <= 8, "eight deep: " + chain);
+        }
+    }
+
+    static String disassembled() {
+        List<String> arguments = new ArrayList<>(List.of("-p", "-c", "-cp", System.getProperty("java.class.path"), "BorrowedLives"));
+        for (Class<?> inside : BorrowedLives.class.getDeclaredClasses()) {
+            arguments.add(inside.getName());
+        }
+        StringWriter text = new StringWriter();
+        PrintWriter out = new PrintWriter(text);
+        int failed = ToolProvider.findFirst("javap").orElseThrow().run(out, out, arguments.toArray(new String[0]));
+        must(failed == 0, "javap: " + text);
+        return text.toString();
+    }
+
+    /** Of each method, as Class.name, the methods of the same file that it calls. */
+    static Map<String, Set<String>> callsOf(String text) {
+        Pattern classLine = Pattern.compile("^(?:\\w+ )*class (\\S+) \\{");
+        Pattern methodLine = Pattern.compile("^  .*?(\\S+)\\(.*\\).*;");
+        Pattern callLine = Pattern.compile("^ .*: invoke.*// Method (?:([\\w$]+)\\.)?\"?([\\w<>]+)\"?:");
+        Map<String, Set<String>> calls = new LinkedHashMap<>();
+        String inClass = "";
+        String inMethod = "";
+        for (String line : text.split("\\R")) {
+            Matcher isClass = classLine.matcher(line);
+            Matcher isMethod = methodLine.matcher(line);
+            Matcher isCall = callLine.matcher(line);
+            if (isClass.find()) {
+                inClass = isClass.group(1);
+            } else if (isCall.find()) {
+                calls.get(inMethod).add((isCall.group(1) == null ? inClass : isCall.group(1)) + "." + isCall.group(2));
+            } else if (isMethod.find()) {
+                inMethod = inClass + "." + (isMethod.group(1).equals(inClass) ? "<init>" : isMethod.group(1));
+                calls.putIfAbsent(inMethod, new TreeSet<>());
+            }
+        }
+        calls.values().forEach(called -> called.retainAll(calls.keySet()));
+        return calls;
+    }
+
+    static List<String> deepest(String method, Map<String, Set<String>> calls, List<String> above) {
+        List<String> open = new ArrayList<>(above);
+        open.add(method);
+        List<String> deepest = open;
+        for (String called : calls.getOrDefault(method, Set.of())) {
+            List<String> chain = open.contains(called) ? open : deepest(called, calls, open);
+            deepest = chain.size() > deepest.size() ? chain : deepest;
+        }
+        return deepest;
     }
 }
